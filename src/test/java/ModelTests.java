@@ -5,7 +5,7 @@ import java.util.TreeMap;
 
 /**
  * Random runs of calls (with fixed seeds) on the class and on a slow model of the document that keeps
- * nothing but bytes, and reads all it answers out of them anew each time.
+ * nothing but bytes, and reads all it answers out of them anew (the BOOK only when its bytes are others).
  */
 public final class ModelTests {
     private static final int RUNS = 80;
@@ -67,6 +67,8 @@ public final class ModelTests {
         List<TreeMap<Integer, Integer>> txOfStart = new ArrayList<>();
         List<Integer> tape = new ArrayList<>();
         List<Integer> answer = new ArrayList<>();
+        List<Integer> readBytes = new ArrayList<>();
+        Told readTold = new Told();
 
         Model() {
             anew();
@@ -177,6 +179,15 @@ public final class ModelTests {
         }
 
         Told told() {
+            List<Integer> now = files.get(parts);
+            if (!now.equals(readBytes)) {
+                readBytes = new ArrayList<>(now);
+                readTold = readBook();
+            }
+            return readTold;
+        }
+
+        Told readBook() {
             Told t = new Told();
             for (int at = 0; at + 16 <= files.get(parts).size(); at += 16) {
                 int kind = get(parts, at + 4, 1), key = get(parts, at + 5, 1), epoch = get(parts, at + 6, 2);
@@ -522,7 +533,7 @@ public final class ModelTests {
             int key = key(), p = part(), g = group(), e = epochOf(key);
             int off = odd(random.nextInt(1000), -2, 3);
             boolean flag = random.nextBoolean();
-            if (mood == 3 && dice < 60) dice = dice < 50 ? 12 : 75;
+            if (mood == 3) dice = m.closed ? 95 : fillingDice(dice);
             if (mood == 1 && dice >= 85 && random.nextInt(8) > 0) dice = 30;
             if (dice < 6) return same("register(" + key + ")", x.register(key), m.register(key));
             if (dice < 18) {
@@ -546,7 +557,8 @@ public final class ModelTests {
             if (dice < 84) return fetch(p, flag);
             if (dice < 86) return same("sync()", x.sync(), m.sync());
             if (dice < 90) {
-                int kept = odd(random.nextInt(m.unsynced.size() + 1), -1, 3000);
+                int lost = random.nextInt(m.unsynced.size() + 1);
+                int kept = odd(m.unsynced.size() - (mood == 3 ? Math.min(lost, 100) : lost), -1, 3000);
                 return same("crash(" + kept + ")", x.crash(kept), m.crash(kept));
             }
             if (dice < 99) return same("open()", x.open(), m.open());
@@ -554,6 +566,13 @@ public final class ModelTests {
             int parts = random.nextInt(10), cap = 50 + random.nextInt(800);
             return same("format(" + parts + ", " + cap + ", 9)",
                 x.format(parts, cap, 9) ? 1 : 0, m.format(parts, cap, 9) ? 1 : 0);
+        }
+
+        /** Mostly begin() and tick(), no format(), few crashes. */
+        int fillingDice(int dice) {
+            if (dice < 70) return dice < 66 ? 12 : 75;
+            if (dice >= 98 || dice >= 86 && dice < 90 && random.nextInt(4) > 0) return 50;
+            return random.nextInt(100) < 80 ? dice : random.nextInt(66);
         }
 
         /** A KEY that can begin at once, so that the BOOK gets full in 512 calls. */
