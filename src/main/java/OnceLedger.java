@@ -911,7 +911,6 @@ public final class OnceLedger {
         }
 
         void openTransaction(int number, int clock, int at) {
-            closeTransaction();
             transaction = number;
             began = clock;
             beganAt = at;
@@ -920,7 +919,6 @@ public final class OnceLedger {
         void closeTransaction() {
             transaction = NONE;
             began = NONE;
-            beganAt = 0;
             added = 0;
             laters = 0;
             decision = NONE;

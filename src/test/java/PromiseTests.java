@@ -30,7 +30,7 @@ public final class PromiseTests {
         promise = 13; answer();
         promise = 14; sync();
         promise = 15; crash(); crashOrder();
-        promise = 16; open(); openEveryPrefix(); openTells();
+        promise = 16; open(); openEveryPrefix(); openTells(); openWithoutParts(); openForgets();
         promise = 17; partition();
         promise = 18; entry();
         promise = 19; producer();
@@ -113,8 +113,11 @@ public final class PromiseTests {
         due("register(1)", x.register(1), 0);
         due("send(1, 0, 7, 0)", x.send(1, 0, 7, 0, false), 0);
         due("entry(7, 0, 4)", x.entry(7, 0, 4), 2);
+        due("send(1, 0, 0, 0)", x.send(1, 0, 0, 0, false), 0);
         due("format(1, 100, 1)", x.format(1, 100, 1), true);
         due("partition(0, 0)", x.partition(0, 0), 0);
+        due("partition(0, 2)", x.partition(0, 2), 0);
+        due("byteOf(0, 0)", x.byteOf(0, 0), -1);
         due("partition(1, 0)", x.partition(1, 0), -1);
         due("count(4)", x.count(4), 0);
         x.register(0);
@@ -872,6 +875,42 @@ public final class PromiseTests {
         due("OPEN that ADDED", x.partition(1, 5), 1);
         due("end", x.end(0, 1, true), 0);
         due("COMMITTED", x.partition(1, 4), 1);
+    }
+
+    /** An ADD that was kept without its PART: the end is then the first ENTRY, and comes but once. */
+    private static void openWithoutParts() {
+        for (int kept = 16; kept <= 46; kept++) {
+            OnceLedger x = house(1, 500, 10);
+            x.register(0);
+            x.begin(0, 0);
+            x.sync();
+            x.send(0, 0, 0, 0, true);
+            due("crash", x.crash(16), 14);
+            due("open", x.open(), 0);
+            due("ADDED", x.producer(0, 3), 1);
+            due("STABLE", x.partition(0, 1), 0);
+            due("OPEN that ADDED", x.partition(0, 5), 1);
+            x.end(0, 0, true);
+            due("crash", x.crash(kept), 46 - kept);
+            due("open", x.open(), kept < 46 ? 1 : 0);
+            due("ENTRIES", x.partition(0, 0), 1);
+            due("KIND", x.entry(0, 0, 0), 2);
+        }
+    }
+
+    private static void openForgets() {
+        OnceLedger x = house(1, 500, 10);
+        x.register(0);
+        x.sync();
+        x.send(0, 0, 0, 0, false);
+        x.send(0, 0, 0, 1, false);
+        due("COMMITTED", x.partition(0, 4), 2);
+        x.crash(14);
+        x.open();
+        due("COMMITTED", x.partition(0, 4), 1);
+        due("fetch behind the last", x.fetch(0, 1, true), -1);
+        due("fetch behind the last", x.fetch(0, 1, false), -1);
+        due("send again", x.send(0, 0, 0, 1, false), 1);
     }
 
     private static void partition() {
