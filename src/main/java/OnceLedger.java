@@ -8,6 +8,7 @@ public final class OnceLedger {
     public static final int NONE = -1;
 
     private static final int CLOSED = -1;
+    private static final int NOT_CLOSED = -1;
     private static final int UNKNOWN = -2;
     private static final int FENCED = -3;
     private static final int OPEN_ALREADY = -4;
@@ -253,7 +254,7 @@ public final class OnceLedger {
 
     public int open() {
         if (!closed) {
-            return CLOSED;
+            return NOT_CLOSED;
         }
         closed = false;
         cutBytes = book.length % BOOK_ENTRY;
