@@ -6,6 +6,7 @@ import java.util.function.ToIntFunction;
 /** What the tests of the sentences share: answers that are due, and twins that show what a call changed. */
 final class Checks {
     private static final int TAPE = 6;
+    private static final int MOST_LINES = 100;
 
     private static int wrong = 0;
     private static String sentence = "";
@@ -23,7 +24,8 @@ final class Checks {
 
     static void fault(String text) {
         wrong++;
-        System.out.println(sentence + ": " + text);
+        if (wrong <= MOST_LINES) System.out.println(sentence + ": " + text);
+        if (wrong == MOST_LINES) System.out.println("what more is wrong is counted, not told");
     }
 
     static void due(String call, long got, long want) {
@@ -73,17 +75,24 @@ final class Checks {
 
     /** The call answers so, the tape is empty then, and nothing else is changed. */
     static void tapeAlone(String call, Supplier<House> made, ToIntFunction<House> it, int want) {
+        tapeAlone(call, made, it, want, 0);
+    }
+
+    /** The call answers so, the tape has so many bytes then, and nothing else is changed. */
+    static void tapeAlone(String call, Supplier<House> made, ToIntFunction<House> it, int want, int tape) {
         House house = made.get();
         due(call, it.applyAsInt(house), want);
-        due(call + ", then the tape", house.count(TAPE), 0);
+        due(call + ", then the tape", house.count(TAPE), tape);
         for (After after : new After[] {NOTHING, CRASH, OPEN}) alike(call, made, made, it, after, false, true);
     }
 
-    /** The call answers so, the ANSWER is empty then, and nothing else is changed. */
-    static void answerAlone(String call, Supplier<House> made, ToIntFunction<House> it, int want) {
+    /** The call answers so, these bytes (none: it is empty) are the ANSWER then, and nothing else is changed. */
+    static void answerAlone(String call, Supplier<House> made, ToIntFunction<House> it, int want, int... answer) {
         House house = made.get();
         due(call, it.applyAsInt(house), want);
-        for (int i = 0; i <= 40; i++) due(call + ", then the ANSWER", house.answer(i), -1);
+        for (int i = 0; i <= 40; i++) {
+            due(call + ", then the ANSWER", house.answer(i), i < answer.length ? answer[i] : -1);
+        }
         for (After after : new After[] {NOTHING, CRASH, OPEN}) alike(call, made, made, it, after, true, false);
     }
 

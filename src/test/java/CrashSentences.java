@@ -14,6 +14,7 @@ final class CrashSentences {
         s.test("Promise 15", "-2: kept is below 0, or there are not so many.", CrashSentences::keptIsWrong);
         s.test("Promise 16", "OPENING: how many TRANSACTIONS were ENDED by it.", CrashSentences::openTellsHowMany);
         s.test("Promise 16", "OPENING: how many TRANSACTIONS were ENDED by it.", CrashSentences::openBehindEveryTick);
+        s.test("Promise 16", "OPENING: how many TRANSACTIONS were ENDED by it.", CrashSentences::openBehindAnOpen);
         s.test("Promise 16", "-1: the house is not CLOSED.", CrashSentences::openWhileNotClosed);
     }
 
@@ -148,6 +149,33 @@ final class CrashSentences {
             Checks.due("OPEN that ADDED", h.partition(0, 5), still);
             Checks.due("ENTRIES", h.partition(0, 0), 6 - still);
             Checks.due("tick(0) ends the others", h.tick(0), still);
+        }
+    }
+
+    /** What an open brings is UNSYNCED too: a crash in it, and the next open brings what lacks. */
+    private static void openBehindAnOpen() {
+        for (int kept = 0; kept <= 58; kept++) {
+            House h = House.of(3, 300, 10);
+            h.register(0);
+            h.begin(0, 0);
+            for (int p = 2; p >= 0; p--) h.send(0, 0, p, 0, true);
+            h.later(0, 0, 0, 0, 5);
+            h.sync();
+            h.end(0, 0, true);
+            h.crash(16);
+            Checks.due("open", h.open(), 1);
+            Checks.due("crash", h.crash(kept), 58 - kept);
+            int ends = Math.min(kept / 14, 3);
+            for (int p = 0; p < 3; p++) Checks.due("ENTRIES at " + kept, h.partition(p, 0), p < ends ? 2 : 1);
+            Checks.due("open at " + kept, h.open(), kept < 58 ? 1 : 0);
+            Checks.due("UNSYNCED at " + kept, h.count(4), kept < 58 ? 14 * (3 - ends) + 16 : 0);
+            Checks.due("CUT at " + kept, h.count(8), kept < 42 ? kept % 14 : kept < 58 ? kept - 42 : 0);
+            for (int p = 0; p < 3; p++) {
+                Checks.due("ENTRIES at " + kept, h.partition(p, 0), 2);
+                Checks.due("SEEN COMMITTED at " + kept, h.partition(p, 4), 1);
+            }
+            Checks.due("MARK", h.marked(0, 0), 5);
+            Checks.due("OPEN", h.count(10), 0);
         }
     }
 

@@ -117,6 +117,9 @@ final class ReadSentences {
             Checks.due("the tape is another", h.count(6), 3);
             h.send(0, 0, -1, 0, false);
         }
+        Checks.answerAlone("fetch", Houses::busy, b -> b.fetch(0, 0, true), 0, 0xA1, 0xC3, 0x80, 0xFF);
+        Checks.answerAlone("fetch", Houses::busy, b -> b.fetch(1, 0, false), 0, 0x0B, 0x0A);
+        Checks.answerAlone("fetch without payload", Houses::busy, b -> b.fetch(0, 1, false), 1);
         Checks.due("fetch of 40", h.fetch(0, 4, true), 4);
         Checks.due("fetch of 1", h.fetch(0, 1, true), 1);
         Checks.due("answer(1): nothing is left of the longer", h.answer(1), -1);

@@ -20,6 +20,7 @@ final class TermSentences {
             + "to whose end ENTRIES come.", TermSentences::filesArePartitionsThenTheBook);
         s.test("Terms 1", "All bytes that came since the latest sync are UNSYNCED, in the order in which they came "
             + "to all FILES.", TermSentences::unsyncedInTheirOrder);
+        s.test("Terms 1", "All bytes that came since the latest sync are UNSYNCED", TermSentences::unsyncedAreMany);
         s.test("Terms 1", "Numbers are written with their bytes, the highest first.",
             TermSentences::numbersHighestByteFirst);
         s.test("Terms 1", "Numbers are written with their bytes, the highest first.",
@@ -92,6 +93,33 @@ final class TermSentences {
             Checks.due("0 at " + kept, h.partition(0, 2), bytes[0]);
             Checks.due("1 at " + kept, h.partition(1, 2), bytes[1]);
             Checks.due("BOOK at " + kept, h.count(5), bytes[2]);
+        }
+    }
+
+    /** Some 1440 ENTRIES without a sync, about as many as 512 calls bring; a crash keeps all but the last byte. */
+    private static void unsyncedAreMany() {
+        for (int gone : new int[] {0, 1, 14}) {
+            House h = House.of(8, 4000, 1);
+            for (int key = 0; key < 32; key++) h.register(key);
+            for (int epoch = 0; epoch < 6; epoch++) {
+                for (int key = 0; key < 32; key++) {
+                    h.begin(key, epoch);
+                    Checks.due("send", h.send(key, epoch, epoch % 2, 0, true), epoch / 2 * 64 + key);
+                    if (key == 31) Checks.due("tick", h.tick(2), 32);
+                }
+            }
+            for (int n = 0; n < 60; n++) Checks.due("send", h.send(5, 6, 7, n, false), n);
+            int book = 16 * (32 + 6 * 32 * 5);
+            int log = 14 * 3 * 32 * 2;
+            Checks.due("UNSYNCED", h.count(4), book + 2 * log + 60 * 14);
+            Checks.due("crash", h.crash(book + 2 * log + 60 * 14 - gone), gone);
+            Checks.due("bytes of the BOOK", h.count(5), book);
+            Checks.due("bytes of 0", h.partition(0, 2), log);
+            Checks.due("bytes of 1", h.partition(1, 2), log);
+            Checks.due("bytes of 7", h.partition(7, 2), 60 * 14 - gone);
+            Checks.due("open", h.open(), 0);
+            Checks.due("NEXT", h.next(5, 7), gone == 0 ? 60 : 59);
+            Checks.due("EPOCH", h.producer(31, 0), 6);
         }
     }
 
@@ -263,6 +291,8 @@ final class TermSentences {
         Checks.due("ENTRIES", most.partition(0, 0), 285);
         Checks.due("SEEN COMMITTED", most.partition(0, 4), 285);
         Checks.due("the last", most.fetch(0, 284, true), 284);
+        Checks.due("none behind it", most.fetch(0, 285, true), -1);
+        Checks.due("none behind it", most.fetch(0, 285, false), -1);
     }
 
     private static void entryOfTheBook() {
@@ -745,6 +775,8 @@ final class TermSentences {
             + "or a PART whose TRANSACTION was ENDED with commit.", TermSentences::seenAndSeenCommitted);
         s.test("Terms 3", "(A PART is of the TRANSACTION that its KEY had OPEN as it came.)",
             TermSentences::partIsOfItsTransaction);
+        s.test("Terms 3", "(A PART is of the TRANSACTION that its KEY had OPEN as it came.)",
+            TermSentences::partsOfAllKeys);
     }
 
     private static void stableIsTheFirstOpenPart() {
@@ -844,6 +876,25 @@ final class TermSentences {
         seen(h, true, 0, 4, 4, 4, 4, -1, -1, -1);
     }
 
+    /** All KEYS at once in one PARTITION: those of which three is a divisor abort, KEY 17 stays OPEN to the end. */
+    private static void partsOfAllKeys() {
+        House h = House.of(1, 2000, 10);
+        for (int key = 0; key < 32; key++) {
+            h.register(key);
+            h.begin(key, 0);
+            Checks.due("send", h.send(key, 0, 0, 0, true), key);
+        }
+        for (int key = 31; key >= 0; key--) if (key != 17) h.end(key, 0, key % 3 != 0);
+        Checks.due("STABLE", h.partition(0, 1), 17);
+        Checks.due("SEEN COMMITTED", h.partition(0, 4), 11);
+        h.end(17, 0, true);
+        Checks.due("STABLE", h.partition(0, 1), 64);
+        Checks.due("SEEN COMMITTED", h.partition(0, 4), 21);
+        for (int key = 0; key < 32; key++) {
+            Checks.due("first from " + key, h.fetch(0, key, true), key % 3 != 0 ? key : key + 1);
+        }
+    }
+
     private static void crashes(Sentences s) {
         s.test("Terms 4", "A CRASH keeps the first so many of the UNSYNCED bytes; they are synced, the others go.",
             TermSentences::crashKeepsTheFirst);
@@ -857,6 +908,8 @@ final class TermSentences {
         s.test("Terms 4", "Then each TRANSACTION with a DECIDE and without DONE, by its number, is ENDED: a COMMIT or "
             + "ABORT, as told, comes to each PARTITION that was ADDED and has none with its number, then a DONE to the "
             + "BOOK.", TermSentences::openingEndsWhatWasDecided);
+        s.test("Terms 4", "comes to each PARTITION that was ADDED and has none with its number, then a DONE to the BOOK.",
+            TermSentences::endAtOffset0ComesOnce);
         s.test("Terms 4", "All others without DONE are OPEN still.", TermSentences::othersAreOpenStill);
     }
 
@@ -917,6 +970,7 @@ final class TermSentences {
                 h.sync();
                 h.sendBytes(0, 0, 0, size, false);
                 h.sendBytes(0, 0, 0, size, false);
+                Checks.due("SEEN COMMITTED", h.partition(0, 4), 2);
                 h.crash(kept);
                 Checks.due("ENTRIES at " + kept, h.partition(0, 0), kept / size);
                 Checks.due("bytes at " + kept, h.partition(0, 2), kept);
@@ -926,7 +980,9 @@ final class TermSentences {
                 Checks.due("bytes at " + kept, h.partition(0, 2), kept - kept % size);
                 Checks.due("UNSYNCED", h.count(4), 0);
                 Checks.due("NEXT", h.next(0, 0), kept / size);
+                Checks.due("SEEN COMMITTED at " + kept, h.partition(0, 4), kept / size);
                 Checks.due("fetch", h.fetch(0, kept / size, false), -1);
+                Checks.due("fetch", h.fetch(0, kept / size, true), -1);
                 Checks.due("send behind it", h.sendBytes(0, 0, 0, 17, false), kept / size);
                 sum(h, 0, kept - kept % size, 17);
             }
@@ -1017,6 +1073,29 @@ final class TermSentences {
                 Checks.due("MARK", h.marked(1, 1), decided && commit == 1 ? 5 : -1);
                 Checks.due("OPEN", h.producer(6, 1), decided ? -1 : 1);
             }
+        }
+    }
+
+    /** The ADD was kept without its PART, so that the COMMIT is the PARTITION's first ENTRY. */
+    private static void endAtOffset0ComesOnce() {
+        for (int kept = 16; kept <= 46; kept++) {
+            House h = House.of(1, 100, 10);
+            h.register(0);
+            h.begin(0, 0);
+            h.sync();
+            h.send(0, 0, 0, 0, true);
+            Checks.due("crash", h.crash(16), 14);
+            Checks.due("open", h.open(), 0);
+            Checks.due("ADDED", h.producer(0, 3), 1);
+            Checks.due("STABLE", h.partition(0, 1), 0);
+            h.end(0, 0, true);
+            Checks.due("crash", h.crash(kept), 46 - kept);
+            Checks.due("open at " + kept, h.open(), kept < 46 ? 1 : 0);
+            Checks.due("ENTRIES at " + kept, h.partition(0, 0), 1);
+            Checks.due("KIND", h.entry(0, 0, 0), 2);
+            Checks.due("STABLE", h.partition(0, 1), 1);
+            Checks.due("SEEN COMMITTED", h.partition(0, 4), 0);
+            Checks.due("NEXT", h.next(0, 0), 0);
         }
     }
 

@@ -161,8 +161,8 @@ final class WriteSentences {
             Checks.due("the byte behind them", h.byteOf(0, 14 + n), 0x5A);
             Checks.due("the end", h.byteOf(0, 15 + n), -1);
         }
-        House h = Houses.closed();
-        Checks.due("while CLOSED", h.feed(2, 1, 1), 7);
+        Checks.tapeAlone("feed(2)", Houses::busy, h -> h.feed(2, 1, 1), 7, 7);
+        Checks.tapeAlone("CLOSED: feed(16)", Houses::closed, h -> h.feed(16, 1, 1), 21, 21);
         House negative = new House();
         negative.register(0);
         negative.feed(16, -1L, Long.MIN_VALUE);
