@@ -634,7 +634,8 @@ final class WriteSentences {
     private static void later(Sentences s) {
         s.test("Promise 7", "In the TRANSACTION: a LATER offset: 0.", WriteSentences::laterIsTaken);
         s.test("Promise 7", "-1; -2 (also if offset is below 0); -3;", WriteSentences::laterOfUnknown);
-        s.test("Promise 7", "-5 no TRANSACTION is OPEN; -8.", WriteSentences::laterWithoutTransactionOrRoom);
+        s.test("Promise 7", "-5 no TRANSACTION is OPEN;", WriteSentences::laterWithoutTransaction);
+        s.test("Promise 7", "-8.", WriteSentences::laterWithoutRoom);
     }
 
     private static void laterIsTaken() {
@@ -676,8 +677,17 @@ final class WriteSentences {
         Checks.due("offset MAX", Houses.busy().later(5, 0, 7, 2, MAX), 0);
     }
 
-    private static void laterWithoutTransactionOrRoom() {
-        Checks.nothing("none is OPEN", Houses::busy, h -> h.later(0, 1, 0, 0, 0), -5);
+    private static void laterWithoutTransaction() {
+        Checks.nothing("none was OPEN", Houses::busy, h -> h.later(0, 1, 0, 0, 0), -5);
+        Checks.nothing("it is ENDED", () -> {
+            House h = Houses.busy();
+            h.end(5, 0, true);
+            return h;
+        }, h -> h.later(5, 0, 0, 0, 0), -5);
+        Checks.due("one is OPEN", Houses.busy().later(31, 0, 0, 0, 0), 0);
+    }
+
+    private static void laterWithoutRoom() {
         Checks.due("the last place", leftInBook(16, 1).later(0, 0, 0, 0, 0), 0);
         Checks.nothing("no place", () -> leftInBook(0, 1), h -> h.later(0, 0, 0, 0, 0), -8);
         Checks.nothing("no place, two are OPEN", () -> leftInBook(0, 2), h -> h.later(1, 0, 0, 0, 0), -8);
