@@ -13,10 +13,17 @@ final class Sentences {
     private static final Path DOCUMENT = Path.of("../shared/DOC.md");
 
     private final TreeMap<String, List<String>> quotes = new TreeMap<>();
+    private final String only;
     private int tests = 0;
+
+    /** All tests (null), or those alone that are of this section or whose words hold this. */
+    Sentences(String only) {
+        this.only = only;
+    }
 
     void test(String section, String words, Runnable test) {
         quotes.computeIfAbsent(section, s -> new ArrayList<>()).add(words);
+        if (only != null && !section.equals(only) && !words.contains(only)) return;
         tests++;
         Checks.at(section + " '" + words + "'");
         test.run();
@@ -53,10 +60,11 @@ final class Sentences {
         }
     }
 
-    /** The numbered terms and the promises, each as one line without its heading and its signature. */
+    /** The first part, the numbered terms and the promises, each as one line without its heading and its signature. */
     private static TreeMap<String, String> sections(String document) {
         TreeMap<String, String> sections = new TreeMap<>();
         String text = document.replace("```text", "").replace("```", "").replaceAll("\\s+", " ");
+        sections.put("What it is", between(text, "## What it is", "## The public face"));
         String terms = " " + between(text, "## Terms", "## Promise 1:");
         for (int n = 1; n <= 4; n++) {
             sections.put("Terms " + n, between(terms, " " + n + ". ", n < 4 ? " " + (n + 1) + ". " : null));
