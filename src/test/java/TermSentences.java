@@ -377,6 +377,8 @@ final class TermSentences {
         s.test("Terms 2", "ENDING a TRANSACTION (with commit or abort)", TermSentences::endingWithNoneAndAllAdded);
         s.test("Terms 2", "With commit its LATER offsets, in their order, are MARKS of the GROUPS from then on.",
             TermSentences::latersBecomeMarks);
+        s.test("Terms 2", "With commit its LATER offsets, in their order, are MARKS of the GROUPS from then on.",
+            TermSentences::latersOfOthersDoNot);
         s.test("Terms 2", "It is not OPEN any more.", TermSentences::notOpenAnyMore);
         s.test("Terms 2", "Of a PRODUCER the sends to a PARTITION have NUMBERS 0, 1, 2 and on, anew with each EPOCH.",
             TermSentences::numbersAnew);
@@ -539,6 +541,33 @@ final class TermSentences {
             Checks.due("behind open", h.marked(7, 1), commit == 1 ? 0 : -1);
             h.end(1, 0, true);
             Checks.due("those of the other", h.marked(0, 0), 77);
+        }
+    }
+
+    /** A lower and a higher KEY have LATER offsets too, which came between its own: none of them is a MARK by its end. */
+    private static void latersOfOthersDoNot() {
+        for (int opened = 0; opened < 2; opened++) {
+            House h = House.of(2, 200, 10);
+            int[] keys = {5, 3, 7};
+            for (int key : keys) {
+                h.register(key);
+                h.begin(key, 0);
+            }
+            for (int round = 0; round < 2; round++) {
+                for (int key : keys) Checks.due("later", h.later(key, 0, key, round, 10 * key + round), 0);
+            }
+            for (int ended = 0; ended < 3; ended++) {
+                Checks.due("end", h.end(keys[ended], 0, true), 0);
+                if (opened == 1) {
+                    h.crash(h.count(4));
+                    h.open();
+                }
+                for (int i = 0; i < 3; i++) {
+                    for (int p = 0; p < 2; p++) {
+                        Checks.due("MARK of " + keys[i], h.marked(keys[i], p), i <= ended ? 10 * keys[i] + p : -1);
+                    }
+                }
+            }
         }
     }
 
